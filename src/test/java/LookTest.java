@@ -152,6 +152,10 @@ public final class LookTest {
         c.due("without pull", y.may(0, 0), 21);
         c.due("without pull", y.may(0, 1), 0);
         c.due("none apart: the least tick", y.may(0, 2), 0);
+        NorthWheel z = new NorthWheel();
+        z.watch(9, -2981);
+        c.due("three", z.may(59, 0), 3);
+        c.due("farthest apart at the last", z.may(59, 2), 60);
     }
 
     /** The same from ships that lie still, each with its own pull and damp. */

@@ -256,6 +256,7 @@ public final class ShipTest {
         c.due("south", x.lean(9, 0, 18000), 99820);
         // 1 times 90 times 20 by 7 is 257.1; south as far below 0
         c.due("cut", x.lean(1, 83, 0), 100257);
+        c.due("hold 1", x.lean(1, -89, 0), 101800);
         c.due("cut towards 0", x.lean(1, -83, 18000), 99743);
         c.due("speed -1", x.lean(-1, 0, 0), NorthWheel.OUTSIDE);
         c.due("speed 41", x.lean(41, 0, 0), NorthWheel.OUTSIDE);
@@ -310,6 +311,11 @@ public final class ShipTest {
         x.off(0, 17990);
         x.run(1, false);
         c.due("free round", x.now(0, 0), 50000 - 17997);
+        x.set(0, 18);
+        x.off(0, -17998);
+        x.run(1, false);
+        c.due("free, 450 by 90", x.now(0, 0), 50000 + 36000 - 18003);
+        x.set(0, -50);
         // hold 40: 10 times 40 times -7000 by 9000 is -311.1
         x.kind(1, 2);
         x.off(1, -7000);
@@ -319,7 +325,26 @@ public final class ShipTest {
         c.due("seeking is not kicked or damped", x.now(1, 1), 50311);
         c.due("seeking", x.now(1, 0), 50000 - 6689);
         dampedGoesAboutLean();
+        leanGoesRound();
         rateIsBounded();
+    }
+
+    private static void leanGoesRound() {
+        NorthWheel x = new NorthWheel();
+        x.kind(0, 3);
+        x.tune(0, 0, 99);
+        x.set(0, 89);
+        x.set(1, 25);
+        x.run(1, false);
+        // lean is 25 times 90 times 20: 45000, a circle and 9000; out -9000: 99 times 1 times -9000 by 9000
+        c.due("the shorter way", x.now(0, 1), 50000 + 99 - 19);
+        x.set(1, 0);
+        x.tune(0, 2, 99);
+        x.off(0, 17999);
+        x.sea(200);
+        x.run(1, false);
+        // 99 times 17999 by 9000 is 197.9: -197 + 39 + 198 is 40
+        c.due("round", x.now(0, 0), 50000 - 17961);
     }
 
     private static void dampedGoesAboutLean() {

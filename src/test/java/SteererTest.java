@@ -12,6 +12,7 @@ public final class SteererTest {
         steers();
         course();
         steersByGainAndMeet();
+        goesRoundNorth();
         steersWithinMost();
         steersBeyondDead();
         steersEvery();
@@ -75,6 +76,13 @@ public final class SteererTest {
         dueFault("deadd 5", 0);
         dueFault("  Dead 5", 2);
         dueFault("d ead 5", 0);
+        dueFault("head 5", 0);
+        dueFault("dead5;byz 1", 6);
+        dueFault("dead5;aby 1", 6);
+        dueFault("by 1{", 4);
+        dueFault("by 1`", 4);
+        dueFault("by 1/", 4);
+        dueFault("by 1:", 4);
         dueFault("dead 5;\u00e9", 7);
         dueFault("dead 5; gains 1", 8);
         dueFault("dead\t5", 4);
@@ -194,6 +202,19 @@ public final class SteererTest {
         y.course(20000);
         // the shorter way round: -16000 times 99 by 10000 is -158.4
         c.due("other way", y.run(1, true), 36000 - 700);
+    }
+
+    private static void goesRoundNorth() {
+        NorthWheel x = steered("gain 0;meet 100");
+        x.course(9000);
+        x.head(35900);
+        x.run(1, true);
+        x.head(200);
+        x.run(1, true);
+        c.due("goes 300, not 35700 back", x.count(2), 47);
+        x.head(35700);
+        x.run(1, true);
+        c.due("goes 500 back", x.count(2), 55);
     }
 
     private static void steersWithinMost() {

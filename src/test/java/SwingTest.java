@@ -42,7 +42,7 @@ public final class SwingTest {
     /** The same by letting a ship of its own go on, tick by tick. */
     private static void swingAsTheShipGoes() {
         int[] places = {0, -60, 88};
-        int[] froms = {3000, -9000, 101, -1};
+        int[] froms = {3000, -9000, 101, -1, 1};
         for (int place : places) {
             for (int from : froms) {
                 for (int damp = 0; damp <= 60; damp += 30) {
@@ -104,7 +104,7 @@ public final class SwingTest {
     }
 
     private static void noUse() {
-        int[][] tunes = {{10, 20}, {20, 20}, {99, 0}, {0, 50}, {3, 10}, {99, 30}, {60, 99}, {1, 1}};
+        int[][] tunes = {{10, 20}, {20, 20}, {99, 0}, {0, 50}, {3, 10}, {99, 30}, {60, 99}, {1, 1}, {9, 22}};
         for (int[] tune : tunes) {
             NorthWheel x = new NorthWheel();
             x.tune(1, 0, tune[0]);
@@ -182,6 +182,11 @@ public final class SwingTest {
                 c.due("best pull of turn " + t[2] + " kick " + kick, got, want);
             }
         }
+        NorthWheel z = new NorthWheel();
+        z.set(0, 39);
+        z.tune(0, 1, 99);
+        z.tune(0, 2, 88);
+        c.due("neither the least nor the greatest", z.bestPull(0, 118, 62, -437), 2);
         NorthWheel y = new NorthWheel();
         c.due("without kick the least", y.bestPull(2, 50, 50, 999), 1);
         c.due("best pull of 3", y.bestPull(3, 0, 0, 0), NorthWheel.UNKNOWN);
@@ -195,6 +200,7 @@ public final class SwingTest {
         x.tune(1, 2, 20);
         x.set(0, 50);
         x.set(1, 15);
+        x.set(2, 30);
         x.told(1, 12, 48);
         x.sea(150);
         x.sea(-90);
@@ -286,5 +292,7 @@ public final class SwingTest {
         c.due("100 answers no more", y.bestDead(1, 1000), 100);
         c.due("just not within", y.bestDead(1, 799), NorthWheel.NONE);
         c.due("of several the least", y.bestDead(1, 800), 0);
+        y.course(9805);
+        c.due("only 990 does not answer", y.bestDead(1, 18000), 990);
     }
 }
