@@ -652,7 +652,7 @@ public final class NorthWheel {
         private int read() {
             System.arraycopy(AT_FIRST, 0, numbers, 0, WORDS);
             int at = 0;
-            for (lines = 1; lines <= MOST_LINES; lines++) {
+            for (int line = 1; line <= MOST_LINES; line++) {
                 int start = behindBlanks(at);
                 int word = wordAt(start);
                 if (word == NONE) {
@@ -664,11 +664,12 @@ public final class NorthWheel {
                     return digits;
                 }
                 numbers[word] = number;
+                lines = line;
                 at = behindBlanks(tokenEnd(digits));
                 if (at >= length) {
                     return NONE;
                 }
-                if (bytes[at] != SEMICOLON || lines == MOST_LINES) {
+                if (bytes[at] != SEMICOLON || line == MOST_LINES) {
                     return at;
                 }
                 at++;

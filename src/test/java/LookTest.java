@@ -27,6 +27,8 @@ public final class LookTest {
         c.due("full", x.look(0, 0, 0), NorthWheel.FULL);
         c.due("outside first", x.look(0, 0, 36000), NorthWheel.OUTSIDE);
         c.due("looks", x.count(5), 16);
+        c.due("sure of all", x.wrong(0, 0), 1);
+        c.due("may of all", x.wrong(0, 1), 1);
     }
 
     private static void wrong() {

@@ -65,6 +65,13 @@ public final class SteererTest {
         c.due("fault", x.fault(), 0);
         Checks.write(x, "by 1");
         c.due("fault", x.fault(), NorthWheel.NONE);
+        for (String behind : new String[] {"5", " 5", "x", ";", "5;by 1"}) {
+            x.erase();
+            Checks.write(x, "dead" + behind);
+            x.erase();
+            Checks.write(x, "dead");
+            c.due("what was erased is not read", x.fault(), 4);
+        }
     }
 
     private static void faultsOfWords() {
@@ -133,6 +140,13 @@ public final class SteererTest {
         dueFault("by1;by1;by1;by1;by1;by1;by1;by1 x", 32);
         dueFault("by1;by1;by1;by1;by1;by1;by1;by3;by1", 30);
         dueFault("every 3;by 3;most 99", 11);
+        dueFault(" ".repeat(160), 160);
+        dueFault(" ".repeat(156) + "dead", 160);
+        dueFault(" ".repeat(155) + "dead5", NorthWheel.NONE);
+        dueFault(" ".repeat(154) + "dead5;", 160);
+        dueFault("dead5" + " ".repeat(155), NorthWheel.NONE);
+        dueFault("z".repeat(160), 0);
+        dueFault("dead" + "0".repeat(156), 4);
     }
 
     private static void steerer() {
