@@ -559,6 +559,15 @@ public final class NorthWheel {
             }
         }
 
+        /** The others turn no ship: a trial that is steered by one need not move them. */
+        private void stopAllBut(int number) {
+            for (int i = 0; i < POINTERS; i++) {
+                if (i != number) {
+                    pointers[i].kind = DEAD;
+                }
+            }
+        }
+
         /** The pointer of that number; null where there is none. */
         private Pointer pointerAt(int number) {
             return isWithin(number, 0, POINTERS - 1) ? pointers[number] : null;
@@ -845,6 +854,7 @@ public final class NorthWheel {
         private void keep(Ship from, Helm by, int n, int dead) {
             ship.copyFrom(from);
             helm.copyFrom(by);
+            ship.stopAllBut(helm.numbers[Helm.BY]);
             helm.numbers[Helm.DEAD_LINE] = dead;
             worst = 0;
             dear = 0;
