@@ -1,13 +1,40 @@
+import java.io.IOException;
+import java.nio.file.Files;
+import java.nio.file.Path;
+
 /** Counts the answers of one test that are not the ones that are due. */
 final class Checks {
+    private static final Path DOCUMENT = Path.of("../shared/DOC.md");
     private int wrong = 0;
     private int asked = 0;
+    private String sentence = "";
+    private String document = null;
+
+    /** From here on the answers are due by these words of the document, which must stand there just so. */
+    void says(String words) {
+        sentence = "'" + words + "': ";
+        if (document == null) {
+            document = readDocument();
+        }
+        if (!document.isEmpty()) {
+            holds("these words stand in the document", document.contains(words));
+        }
+    }
+
+    /** Empty where the document is not at hand: the answers are due all the same. */
+    private static String readDocument() {
+        try {
+            return Files.exists(DOCUMENT) ? Files.readString(DOCUMENT).replaceAll("\\s+", " ") : "";
+        } catch (IOException e) {
+            return "";
+        }
+    }
 
     void due(String call, long got, long want) {
         asked++;
         if (got != want) {
             wrong++;
-            System.out.println(call + " answered " + got + ", due is " + want);
+            System.out.println(sentence + call + " answered " + got + ", due is " + want);
         }
     }
 
@@ -15,7 +42,7 @@ final class Checks {
         asked++;
         if (!so) {
             wrong++;
-            System.out.println("not so: " + what);
+            System.out.println(sentence + "not so: " + what);
         }
     }
 

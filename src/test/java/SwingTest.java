@@ -54,16 +54,10 @@ public final class SwingTest {
     }
 
     private static void compareSwing(int place, int from, int damp, boolean damped) {
-        NorthWheel x = new NorthWheel();
-        x.set(0, place);
-        x.tune(2, 0, 37);
-        x.tune(2, 1, damp);
-        x.kind(2, damped ? 3 : 2);
-        x.off(2, from);
+        int[] path = path(place, from, damp, damped);
         int crosses = -1, beyond = 0, lastAwake = Math.abs(from) > 100 ? 0 : -1;
         for (int tick = 1; tick <= 600; tick++) {
-            x.run(1, false);
-            int off = x.now(2, 0) - 50000;
+            int off = path[tick];
             if (crosses < 0 && (off == 0 || off > 0 != from > 0)) {
                 crosses = tick;
                 beyond = off;
@@ -89,6 +83,26 @@ public final class SwingTest {
         c.due("rests" + told, y.swing(2, from, damped, 2), lastAwake == 600 ? -1 : lastAwake + 1);
         c.due("nothing is changed", y.now(2, 0), 50000);
         c.due("nothing is changed", y.count(0), 0);
+    }
+
+    /** OFF behind each tick, by three ships one behind the other: an object is promised 512 calls alone. */
+    private static int[] path(int place, int from, int damp, boolean damped) {
+        int[] path = new int[601];
+        path[0] = from;
+        for (int ahead = 0; ahead < 600; ahead += 200) {
+            NorthWheel x = new NorthWheel();
+            x.set(0, place);
+            x.tune(2, 0, 37);
+            x.tune(2, 1, damp);
+            x.kind(2, damped ? 3 : 2);
+            x.off(2, from);
+            x.run(ahead, false);
+            for (int tick = ahead + 1; tick <= ahead + 200; tick++) {
+                x.run(1, false);
+                path[tick] = x.now(2, 0) - 50000;
+            }
+        }
+        return path;
     }
 
     private static void swingRefused() {
@@ -267,9 +281,9 @@ public final class SwingTest {
     }
 
     private static void bestDead() {
-        NorthWheel x = yawedShip();
         for (int allowance : new int[] {0, 60, 150, 200, 300, 500, 1000, 2999, 18000}) {
             for (int n : new int[] {1, 40, 300}) {
+                NorthWheel x = yawedShip();
                 int want = -1, least = 0;
                 for (int dead = 0; dead <= 990; dead += 10) {
                     int dear = x.kept(n, dead, 1);
@@ -281,6 +295,7 @@ public final class SwingTest {
                 c.due("best dead for " + n + " within " + allowance, x.bestDead(n, allowance), want);
             }
         }
+        NorthWheel x = yawedShip();
         c.due("n 0", x.bestDead(0, 0), NorthWheel.OUTSIDE);
         c.due("n 301", x.bestDead(301, 0), NorthWheel.OUTSIDE);
         c.due("allowance -1", x.bestDead(1, -1), NorthWheel.OUTSIDE);
