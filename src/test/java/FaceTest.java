@@ -13,6 +13,8 @@ import java.util.regex.Pattern;
 
 /** The public face as the document has it, and those rules of the language that can be seen in the source. */
 public final class FaceTest {
+    private static final Path SOURCE = Path.of("src/main/java/NorthWheel.java");
+    private static final Path DOCUMENT = Path.of("../shared/DOC.md");
     private static final Checks c = new Checks();
     private static final String[] FACE = {
         "set(int,int)", "head(int)", "sea(int)", "calm()", "kind(int,int)", "tune(int,int,int)", "off(int,int)",
@@ -27,6 +29,8 @@ public final class FaceTest {
         methods();
         others();
         source();
+        faceOfTheDocument();
+        groupsOfTheDocument();
         c.end();
     }
 
@@ -91,7 +95,7 @@ public final class FaceTest {
     }
 
     private static void source() throws IOException {
-        String text = Files.readString(Path.of("src/main/java/NorthWheel.java"));
+        String text = Files.readString(SOURCE);
         String code = text.replaceAll("(?s)/\\*.*?\\*/", "").replaceAll("//[^\n]*", "");
         Matcher banned = Pattern.compile(
             "\\b(throw|throws|try|catch|synchronized|assert|import|package|protected|native|var|System\\.(?!arraycopy)\\w+)\\b|->|::")
@@ -101,5 +105,43 @@ public final class FaceTest {
         while (parameters.find()) {
             c.holds("at most seven parameters", parameters.group(1).split(",").length <= 7);
         }
+    }
+
+    /** Each line of the document's face stands in the source, with the names of its numbers, in the same order. */
+    private static void faceOfTheDocument() throws IOException {
+        if (!Files.exists(DOCUMENT)) {
+            return;
+        }
+        Matcher block = Pattern.compile("(?s)## The public face\\s+```java\\s(.*?)```").matcher(Files.readString(DOCUMENT));
+        c.holds("the document has a face", block.find());
+        String source = Files.readString(SOURCE);
+        int from = 0;
+        int lines = 0;
+        for (String line : block.group(1).split("\n")) {
+            if (line.strip().startsWith("public")) {
+                int at = source.indexOf(line.strip().replace(");", ") {"), from);
+                c.holds("in its place: " + line.strip(), at >= 0);
+                from = Math.max(at, from);
+                lines++;
+            }
+        }
+        // the class, its constants, its constructor and the calls
+        c.due("lines of the face", lines, 3 + FACE.length);
+    }
+
+    /** Ahead of the first call of each group stands what the document says there. */
+    private static void groupsOfTheDocument() throws IOException {
+        if (!Files.exists(DOCUMENT)) {
+            return;
+        }
+        String source = Files.readString(SOURCE).replaceAll("\\s+", " ");
+        Matcher groups = Pattern.compile("Ahead of the calls `(\\w+)`[^\\n]* the interface says: (---- [^\\n]*)\\.\\n")
+            .matcher(Files.readString(DOCUMENT));
+        int seen = 0;
+        while (groups.find()) {
+            c.holds(groups.group(2), source.contains("// " + groups.group(2) + " public int " + groups.group(1) + "("));
+            seen++;
+        }
+        c.due("groups of calls", seen, 4);
     }
 }

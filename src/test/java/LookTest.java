@@ -16,6 +16,7 @@ public final class LookTest {
     }
 
     private static void look() {
+        c.says("A LOOK: how many. OUTSIDE; FULL.");
         NorthWheel x = new NorthWheel();
         int[][] outside = {{-1, 0, 0}, {0, -1, 0}, {0, 0, -1}, {36000, 0, 0}, {0, 36000, 0}, {0, 0, 36000}};
         for (int[] o : outside) {
@@ -32,6 +33,7 @@ public final class LookTest {
     }
 
     private static void wrong() {
+        c.says("WRONG by n: SURE (what 0), MAY (1), by bits. OUTSIDE.");
         NorthWheel x = new NorthWheel();
         c.due("sure without looks", x.wrong(0, 0), 0);
         c.due("may without looks", x.wrong(0, 1), 0);
@@ -55,6 +57,7 @@ public final class LookTest {
     }
 
     private static void wrongRoundNorth() {
+        c.says("WRONG by n: SURE (what 0), MAY (1), by bits. OUTSIDE.");
         for (int which = 0; which < 3; which++) {
             NorthWheel x = new NorthWheel();
             int[] shown = {35990, 10, 10};
@@ -69,6 +72,7 @@ public final class LookTest {
     }
 
     private static void about() {
+        c.says("TURNED ABOUT: at a HEADING it SHOWED that: how many. OUTSIDE; FULL.");
         NorthWheel x = new NorthWheel();
         c.due("about -1", x.about(-1, 0), NorthWheel.OUTSIDE);
         c.due("about 36000", x.about(36000, 0), NorthWheel.OUTSIDE);
@@ -84,6 +88,7 @@ public final class LookTest {
     }
 
     private static void needle() {
+        c.says("Of an eighth (0 .. 7): the least (what 0), the greatest (1), both and 50000; NONE: there are none. OUTSIDE.");
         for (int k = 0; k < 8; k++) {
             NorthWheel x = new NorthWheel();
             int from = Math.floorMod(4500 * k - 2250, 36000);
@@ -114,6 +119,7 @@ public final class LookTest {
     }
 
     private static void watch() {
+        c.says("WATCHED: how many. OUTSIDE: ticks, off (-18000 .. 17999); FULL.");
         NorthWheel x = new NorthWheel();
         c.due("ticks -1", x.watch(-1, 0), NorthWheel.OUTSIDE);
         c.due("ticks 61", x.watch(61, 0), NorthWheel.OUTSIDE);
@@ -130,6 +136,7 @@ public final class LookTest {
     }
 
     private static void may() {
+        c.says("MAY BE with n: how many (what 0), the first: 100 PULL and DAMP (1; NONE), NEXT (2; NONE). OUTSIDE.");
         NorthWheel x = new NorthWheel();
         c.due("all", x.may(0, 0), 441);
         c.due("first", x.may(0, 1), 0);
@@ -162,6 +169,7 @@ public final class LookTest {
 
     /** The same from ships that lie still, each with its own pull and damp. */
     private static void mayAsTheShipGoes() {
+        c.says("MAY BE with n: how many (what 0), the first: 100 PULL and DAMP (1; NONE), NEXT (2; NONE). OUTSIDE.");
         int[][] paths = new int[441][61];
         for (int pull = 0; pull <= 20; pull++) {
             for (int damp = 0; damp <= 20; damp++) {
@@ -226,6 +234,7 @@ public final class LookTest {
     }
 
     private static void count() {
+        c.says("0 TICKS, 1 HEADING, 2 RUDDER and 50, 3 YAWS, 4 bytes of THE TEXT, 5 LOOKS, 6 TURNED ABOUT, 7 WATCHED. OUTSIDE.");
         NorthWheel x = new NorthWheel();
         x.set(3, -35);
         x.sea(1);

@@ -23,6 +23,7 @@ public final class ShipTest {
     }
 
     private static void aNewObject() {
+        c.says("All as at first, PLACE 0.");
         NorthWheel x = new NorthWheel();
         for (int p = 0; p < 3; p++) {
             c.due("new: shows", x.shows(p), 0);
@@ -54,6 +55,7 @@ public final class ShipTest {
     }
 
     private static void set() {
+        c.says("PLACE (what 0), SPEED (1), AGILE (2), RUDDER (3): that which it was, and 100. OUTSIDE.");
         NorthWheel x = new NorthWheel();
         int[] least = {-89, 0, 0, -35};
         int[] greatest = {89, 40, 99, 35};
@@ -74,6 +76,7 @@ public final class ShipTest {
     }
 
     private static void head() {
+        c.says("HEADING: that which it was. OUTSIDE (0 .. 35999).");
         NorthWheel x = new NorthWheel();
         c.due("head 35999", x.head(35999), 0);
         c.due("head -1", x.head(-1), NorthWheel.OUTSIDE);
@@ -83,6 +86,7 @@ public final class ShipTest {
     }
 
     private static void seasAndCalm() {
+        c.says("A YAW more of SEAS: how many. OUTSIDE; FULL.");
         NorthWheel x = new NorthWheel();
         c.due("sea 1000", x.sea(1000), NorthWheel.OUTSIDE);
         c.due("sea -1000", x.sea(-1000), NorthWheel.OUTSIDE);
@@ -107,6 +111,7 @@ public final class ShipTest {
     }
 
     private static void kind() {
+        c.says("KIND of a POINTER: that which it was. UNKNOWN; OUTSIDE.");
         NorthWheel x = new NorthWheel();
         for (int kind = 0; kind <= 5; kind++) {
             c.due("kind", x.kind(1, kind), kind == 0 ? 0 : kind - 1);
@@ -133,6 +138,7 @@ public final class ShipTest {
     }
 
     private static void tune() {
+        c.says("PULL (what 0), DAMP (1), KICK (2) of a POINTER: that which it was. UNKNOWN; OUTSIDE.");
         NorthWheel x = new NorthWheel();
         int[] first = {10, 20, 0};
         for (int what = 0; what < 3; what++) {
@@ -153,6 +159,7 @@ public final class ShipTest {
     }
 
     private static void off() {
+        c.says("OFF of a POINTER is told, RATE is 0: 1. UNKNOWN; OUTSIDE.");
         NorthWheel x = new NorthWheel();
         x.kind(2, 2);
         c.due("off -18000", x.off(2, -18000), 1);
@@ -172,6 +179,7 @@ public final class ShipTest {
     }
 
     private static void told() {
+        c.says("What a CORRECTED one is told: SPEED and PLACE: 1. UNKNOWN; OUTSIDE.");
         NorthWheel x = new NorthWheel();
         x.kind(0, 4);
         c.due("told", x.told(0, 40, -89), 1);
@@ -194,6 +202,7 @@ public final class ShipTest {
     }
 
     private static void iron() {
+        c.says("DEVIATION at eighth k (0 .. 7): 1. OUTSIDE.");
         NorthWheel x = new NorthWheel();
         c.due("iron", x.iron(0, -2000), 1);
         c.due("iron", x.iron(7, 2000), 1);
@@ -207,6 +216,7 @@ public final class ShipTest {
     }
 
     private static void shows() {
+        c.says("What a POINTER SHOWS. UNKNOWN.");
         NorthWheel x = new NorthWheel();
         x.head(100);
         c.due("dead", x.shows(0), 0);
@@ -230,6 +240,7 @@ public final class ShipTest {
     }
 
     private static void now() {
+        c.says("OFF (what 0), RATE (1), both and 50000. UNKNOWN; OUTSIDE.");
         NorthWheel x = new NorthWheel();
         x.kind(1, 2);
         x.off(1, 900);
@@ -243,6 +254,7 @@ public final class ShipTest {
     }
 
     private static void lean() {
+        c.says("LEAN of a SPEED, PLACE, HEADING, and 100000. OUTSIDE.");
         NorthWheel x = new NorthWheel();
         c.due("lean 0", x.lean(0, 89, 0), 100000);
         c.due("north", x.lean(9, 0, 0), 100180);
@@ -267,6 +279,7 @@ public final class ShipTest {
     }
 
     private static void deviation() {
+        c.says("DEVIATION at a HEADING, and 50000. OUTSIDE.");
         NorthWheel x = new NorthWheel();
         x.iron(3, 100);
         x.iron(4, -101);
@@ -286,6 +299,8 @@ public final class ShipTest {
     }
 
     private static void run() {
+        c.says("n TICKS (1 .. 500) go by, THE STEERER steering (steered), or the RUDDER as it is: HEADING. OUTSIDE: "
+            + "also beyond 5000.");
         NorthWheel x = new NorthWheel();
         x.set(3, -35);
         x.set(2, 99);
@@ -301,6 +316,7 @@ public final class ShipTest {
     }
 
     private static void runMovesEachKind() {
+        c.says("Then each POINTER by its KIND");
         NorthWheel x = new NorthWheel();
         x.set(0, -50);
         x.kind(0, 1);
@@ -330,6 +346,7 @@ public final class ShipTest {
     }
 
     private static void leanGoesRound() {
+        c.says("as what is OFF is told");
         NorthWheel x = new NorthWheel();
         x.kind(0, 3);
         x.tune(0, 0, 99);
@@ -348,6 +365,7 @@ public final class ShipTest {
     }
 
     private static void dampedGoesAboutLean() {
+        c.says("OFF less the LEAN of the SHIP as it heads now");
         for (int kind = 3; kind <= 4; kind++) {
             NorthWheel x = new NorthWheel();
             x.kind(2, kind);
@@ -366,6 +384,7 @@ public final class ShipTest {
     }
 
     private static void rateIsBounded() {
+        c.says("then it is -9999 at least, 9999 at most; OFF is RATE more.");
         NorthWheel x = new NorthWheel();
         x.kind(0, 2);
         x.kind(1, 2);
@@ -381,6 +400,7 @@ public final class ShipTest {
     }
 
     private static void runIsBounded() {
+        c.says("OUTSIDE: also beyond 5000.");
         NorthWheel x = new NorthWheel();
         c.due("run 0", x.run(0, false), NorthWheel.OUTSIDE);
         c.due("run -1", x.run(-1, true), NorthWheel.OUTSIDE);

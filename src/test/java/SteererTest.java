@@ -34,6 +34,7 @@ public final class SteererTest {
     }
 
     private static void write() {
+        c.says("n (1 .. 8) bytes more of THE TEXT, byte i being bytes >> 8 i & 255: how many it has. OUTSIDE; FULL.");
         NorthWheel x = new NorthWheel();
         c.due("write 0", x.write(0, 0), NorthWheel.OUTSIDE);
         c.due("write 9", x.write(0, 9), NorthWheel.OUTSIDE);
@@ -57,6 +58,7 @@ public final class SteererTest {
     }
 
     private static void erase() {
+        c.says("THE TEXT is empty: how many bytes it had.");
         NorthWheel x = new NorthWheel();
         c.due("erase nothing", x.erase(), 0);
         Checks.write(x, "gain 7");
@@ -75,6 +77,7 @@ public final class SteererTest {
     }
 
     private static void faultsOfWords() {
+        c.says("The place of the FAULT (the byte with which the TOKEN begins, or the length); NONE.");
         dueFault("", 0);
         dueFault("   ", 3);
         dueFault("5", 0);
@@ -105,6 +108,7 @@ public final class SteererTest {
     }
 
     private static void faultsOfNumbers() {
+        c.says("that cannot stand there, a number out of its bounds also");
         for (String word : new String[] {"dead", "gain", "meet"}) {
             dueFault(word + " 0", NorthWheel.NONE);
             dueFault(word + " 999", NorthWheel.NONE);
@@ -129,6 +133,7 @@ public final class SteererTest {
     }
 
     private static void faultsOfLines() {
+        c.says("LINES with ; (59) between, 8 at most, each one of: dead N. gain N. meet N. most N. every N. by P.");
         dueFault("by 1;", 5);
         dueFault("by 1 ; ", 7);
         dueFault("by 1;;by 1", 5);
@@ -150,6 +155,7 @@ public final class SteererTest {
     }
 
     private static void steerer() {
+        c.says("THE TEXT becomes THE STEERER, and is empty then: how many LINES. NOT: a FAULT.");
         NorthWheel x = new NorthWheel();
         Checks.write(x, "gain 7;every 9;gain 8;most 3");
         c.due("steerer", x.steerer(), 4);
@@ -174,6 +180,7 @@ public final class SteererTest {
     }
 
     private static void steers() {
+        c.says("Of THE STEERER: 0 dead, 1 gain, 2 meet, 3 most, 4 every, 5 by. OUTSIDE.");
         NorthWheel x = new NorthWheel();
         dueSteers(x, 0, 100, 0, 35, 1, 0);
         c.due("steers -1", x.steers(-1), NorthWheel.OUTSIDE);
@@ -181,6 +188,7 @@ public final class SteererTest {
     }
 
     private static void course() {
+        c.says("COURSE: that which it was. OUTSIDE.");
         NorthWheel x = new NorthWheel();
         c.due("course", x.course(35999), 0);
         c.due("course -1", x.course(-1), NorthWheel.OUTSIDE);
@@ -198,6 +206,7 @@ public final class SteererTest {
     }
 
     private static void steersByGainAndMeet() {
+        c.says("OUT times gain by 10000, CUT, less GOES times meet by 10000, CUT");
         NorthWheel x = steered("gain 77;meet 55");
         x.course(1234);
         // 1234 times 77 by 10000 is 9.5
@@ -219,6 +228,7 @@ public final class SteererTest {
     }
 
     private static void goesRoundNorth() {
+        c.says("what it SHOWS less what it did when it was looked at last (likewise; 0 the first time)");
         NorthWheel x = steered("gain 0;meet 100");
         x.course(9000);
         x.head(35900);
@@ -232,6 +242,7 @@ public final class SteererTest {
     }
 
     private static void steersWithinMost() {
+        c.says("most at most either way");
         NorthWheel x = steered("most 3;gain 999");
         x.course(9000);
         c.due("most", x.run(1, true), 60);
@@ -244,6 +255,7 @@ public final class SteererTest {
     }
 
     private static void steersBeyondDead() {
+        c.says("RUDDER becomes 0, if OUT without sign is at most 10 times dead");
         NorthWheel x = steered("dead 20;gain 999");
         x.course(200);
         c.due("at most 10 times dead", x.run(1, true), 0);
@@ -255,6 +267,7 @@ public final class SteererTest {
     }
 
     private static void steersEvery() {
+        c.says("ahead of a TICK whose number is a multiple of every");
         NorthWheel x = steered("every 3;gain 100;meet 100");
         x.run(1, false);
         x.course(1000);
@@ -270,6 +283,7 @@ public final class SteererTest {
     }
 
     private static void steersByEachPointer() {
+        c.says("what is OUT is the COURSE less what the POINTER SHOWS");
         for (int by = 0; by < 3; by++) {
             NorthWheel x = new NorthWheel();
             for (int p = 0; p < 3; p++) {
@@ -284,6 +298,7 @@ public final class SteererTest {
     }
 
     private static void forgetsItsLook() {
+        c.says("When a STEERER or COURSE is told, it was not looked at.");
         NorthWheel x = steered("meet 100;gain 0");
         x.set(3, 10);
         x.run(1, true);

@@ -16,6 +16,8 @@ public final class SwingTest {
     }
 
     private static void swingWorkedByHand() {
+        c.says("SWING of a POINTER from an OFF (-9000 .. 9000, not 0), DAMPED or SEEKING (damped false): CROSSES "
+            + "(what 0), BEYOND and 50000 (1), RESTS (2); NONE. UNKNOWN; OUTSIDE.");
         NorthWheel x = new NorthWheel();
         x.tune(0, 0, 99);
         x.tune(0, 1, 0);
@@ -41,6 +43,8 @@ public final class SwingTest {
 
     /** The same by letting a ship of its own go on, tick by tick. */
     private static void swingAsTheShipGoes() {
+        c.says("SWING of a POINTER (its PULL, DAMP; SEEKING or DAMPED as told) alone in a SHIP that lies still "
+            + "(SPEED 0, no TURN) at THE PLACE, from a told OFF with RATE 0");
         int[] places = {0, -60, 88};
         int[] froms = {3000, -9000, 101, -1, 1};
         for (int place : places) {
@@ -106,6 +110,8 @@ public final class SwingTest {
     }
 
     private static void swingRefused() {
+        c.says("SWING of a POINTER from an OFF (-9000 .. 9000, not 0), DAMPED or SEEKING (damped false): CROSSES "
+            + "(what 0), BEYOND and 50000 (1), RESTS (2); NONE. UNKNOWN; OUTSIDE.");
         NorthWheel x = new NorthWheel();
         c.due("swing of 3", x.swing(3, 0, true, 9), NorthWheel.UNKNOWN);
         c.due("swing of -1", x.swing(-1, 1, true, 0), NorthWheel.UNKNOWN);
@@ -118,6 +124,7 @@ public final class SwingTest {
     }
 
     private static void noUse() {
+        c.says("NO USE of a POINTER; NONE. UNKNOWN.");
         int[][] tunes = {{10, 20}, {20, 20}, {99, 0}, {0, 50}, {3, 10}, {99, 30}, {60, 99}, {1, 1}, {9, 22}};
         for (int[] tune : tunes) {
             NorthWheel x = new NorthWheel();
@@ -143,6 +150,7 @@ public final class SwingTest {
     }
 
     private static void turned() {
+        c.says("TURNED of a POINTER, with its own PULL. UNKNOWN; OUTSIDE.");
         NorthWheel x = new NorthWheel();
         x.tune(0, 2, 50);
         // turn -300: rate -150, off -150; rate -150 + 15, damped -108, -150 more: -258, off -408
@@ -175,6 +183,7 @@ public final class SwingTest {
     }
 
     private static void bestPull() {
+        c.says("BEST PULL of a POINTER. UNKNOWN; OUTSIDE.");
         int[][] turns = {{300, 5, 300}, {60, 60, -40}, {20, 3, 999}, {300, 200, 9}, {1, 1, 500}, {40, 0, 5}};
         for (int[] t : turns) {
             for (int kick = 0; kick <= 90; kick += 45) {
@@ -229,6 +238,7 @@ public final class SwingTest {
     }
 
     private static void kept() {
+        c.says("KEPT: WORST (what 0), DEAR (1). OUTSIDE: n, dead (0 .. 999), what.");
         NorthWheel x = new NorthWheel();
         x.kind(0, 1);
         x.course(1000);
@@ -261,6 +271,8 @@ public final class SwingTest {
 
     /** The same by letting the ship run; her own dead is told so that the run is the trial. */
     private static void keptAsTheShipRuns() {
+        c.says("KEPT for n TICKS (1 .. 300) from now on, THE STEERER steering, with dead told instead of its own: "
+            + "WORST: the greatest size of the COURSE less HEADING");
         for (int n = 1; n <= 41; n += 8) {
             NorthWheel x = yawedShip();
             int worst = x.kept(n, 7, 0), dear = x.kept(n, 7, 1);
@@ -281,6 +293,7 @@ public final class SwingTest {
     }
 
     private static void bestDead() {
+        c.says("BEST DEAD for n TICKS with an allowance (0 .. 18000); NONE. OUTSIDE.");
         for (int allowance : new int[] {0, 60, 150, 200, 300, 500, 1000, 2999, 18000}) {
             for (int n : new int[] {1, 40, 300}) {
                 NorthWheel x = yawedShip();
